@@ -395,12 +395,17 @@ public final class PromisesTest {
             checks.equal("tidy with a slot that is 0 for way 0", x.tidy(what), 2);
             x.constant(3, 65536);
             checks.equal("tidy with a slot set to 65536", x.tidy(what), 2);
-            x.constant(4, 1023);
-            x.compare(0, 0, 0, 4);
-            x.choose(5, 0, 4, 1);
-            checks.equal("tidy with a slot other for one way alone", x.tidy(what), 4);
-            x.reckon(5, 1, 5, 5);
-            checks.equal("tidy after a slot became 0", x.tidy(what), 3);
+            x.constant(4, 5);
+            x.reckon(4, 1, 4, 4);
+            checks.equal("tidy after a slot became 0", x.tidy(what), 2);
+            for (int only : SOME_WAYS) {
+                x.constant(4, only);
+                x.compare(0, 0, 0, 4);
+                x.constant(4, -32768);
+                x.choose(5, 0, 4, 1);
+                x.constant(4, 0);
+                checks.equal("tidy with a slot other for way " + only + " alone", x.tidy(what), 3);
+            }
             int w = what;
             tidyLeavesAll(y -> y.tidy(w));
         }
