@@ -1,10 +1,5 @@
 /** Each promise with ordinary inputs and the edges that the document names. */
 public final class PromisesTest {
-    /** What a number has to be for a way. */
-    private interface Due {
-        int at(int way);
-    }
-
     private static final int[] EDGES = {
         -32768, -32767, -16385, -16384, -257, -256, -182, -181, -10, -7, -3, -2, -1,
         0, 1, 2, 3, 7, 10, 181, 182, 255, 256, 16383, 16384, 32766, 32767
@@ -30,39 +25,13 @@ public final class PromisesTest {
         checks.finish();
     }
 
-    private static int wrapped(long v) {
-        return (int) Math.floorMod(v + 32768L, 65536L) - 32768;
-    }
-
-    /** All 1024 ways, on a new object for every 256, as an object is good for 512 calls. */
-    private static void numberEverywhere(String what, Checks.Call calls, int slot, Due due) {
-        for (int from = 0; from < 1024; from += 256) {
-            NumberCircuits x = new NumberCircuits();
-            calls.on(x);
-            for (int w = from; w < from + 256; w++) {
-                checks.equal(what + ": value(" + slot + ", " + w + ")", x.value(slot, w), due.at(w));
-            }
-        }
-    }
-
-    /** A truth is seen for each way as a number that is 1 where it is yes. */
-    private static void truthEverywhere(String what, Checks.Call calls, int truth, Due due) {
-        Checks.Call shown = x -> {
-            calls.on(x);
-            x.constant(6, 0);
-            x.constant(7, 1);
-            x.choose(5, truth, 7, 6);
-        };
-        numberEverywhere(what + ", truth " + truth, shown, 5, due);
-    }
-
     private static void promise1NewObject() {
         for (int i = 0; i < 8; i++) {
             int at = i;
-            numberEverywhere("a new object", x -> { }, i, w -> 0);
-            truthEverywhere("a new object", x -> { }, i, w -> 0);
+            checks.numberEverywhere("a new object", x -> { }, i, w -> 0);
+            checks.truthEverywhere("a new object", x -> { }, i, w -> 0);
             NumberCircuits x = new NumberCircuits();
-            checks.thrown("way(" + i + ") of a new object", x, y -> y.way(at), "NoSuchElementException");
+            checks.thrown("way(" + i + ") of a new object", x, y -> y.way(at), Checks.NO_SUCH);
             checks.equal("no in truth " + i, x.join(i, 3, i, 0), 1024);
         }
         checks.equal("tidy(0) of a new object", new NumberCircuits().tidy(0), 0);
@@ -76,12 +45,12 @@ public final class PromisesTest {
                 NumberCircuits x = new NumberCircuits();
                 x.constant(slot, v);
                 for (int w : SOME_WAYS) {
-                    checks.equal("constant(" + slot + ", " + v + ") at " + w, x.value(slot, w), wrapped(v));
+                    checks.equal("constant(" + slot + ", " + v + ") at " + w, x.value(slot, w), Checks.wrapped(v));
                 }
-                checks.equal("the slots beside constant", x.tidy(0), wrapped(v) == 0 ? 0 : 1);
+                checks.equal("the slots beside constant", x.tidy(0), Checks.wrapped(v) == 0 ? 0 : 1);
             }
         }
-        numberEverywhere("constant", x -> x.constant(3, -5), 3, w -> -5);
+        checks.numberEverywhere("constant", x -> x.constant(3, -5), 3, w -> -5);
     }
 
     private static void promise3Unknown() {
@@ -102,28 +71,15 @@ public final class PromisesTest {
 
     private static void unknownEverywhere(int first, int count, int low) {
         String what = "unknown(4, " + first + ", " + count + ", " + low + ")";
-        Due due = w -> {
+        Checks.Due due = w -> {
             long sum = low;
             for (int i = 0; i < count; i++) {
                 boolean set = Integer.toBinaryString(w + 1024).charAt(10 - first - i) == '1';
                 sum += set ? Math.round(Math.pow(2, i)) : 0;
             }
-            return wrapped(sum);
+            return Checks.wrapped(sum);
         };
-        numberEverywhere(what, x -> x.unknown(4, first, count, low), 4, due);
-    }
-
-    /** By magnitudes and signs and not by Java's own division, which the program uses. */
-    private static int dueReckoned(int kind, int a, int b) {
-        long quotient = 0;
-        long remainder = 0;
-        if (b != 0) {
-            long magnitude = Math.floorDiv(Math.abs((long) a), Math.abs((long) b));
-            quotient = (a < 0) == (b < 0) ? magnitude : -magnitude;
-            remainder = a - quotient * b;
-        }
-        long[] all = {(long) a + b, (long) a - b, (long) a * b, quotient, remainder, -(long) b};
-        return wrapped(all[kind]);
+        checks.numberEverywhere(what, x -> x.unknown(4, first, count, low), 4, due);
     }
 
     private static void promise4Reckon() {
@@ -136,20 +92,20 @@ public final class PromisesTest {
                     x.constant(2, b);
                     x.reckon(0, kind, 1, 2);
                     String what = "reckon kind " + kind + " of " + a + " and " + b;
-                    checks.equal(what, x.value(0, 0), dueReckoned(kind, a, b));
-                    checks.equal(what, x.value(0, 1023), dueReckoned(kind, a, b));
+                    checks.equal(what, x.value(0, 0), Checks.dueReckoned(kind, a, b));
+                    checks.equal(what, x.value(0, 1023), Checks.dueReckoned(kind, a, b));
                 }
             }
-            numberEverywhere("reckon kind " + kind + " over bits", x -> {
+            checks.numberEverywhere("reckon kind " + kind + " over bits", x -> {
                 x.unknown(1, 0, 5, -13);
                 x.unknown(2, 5, 5, -17);
                 x.reckon(3, k, 1, 2);
-            }, 3, w -> dueReckoned(k, w % 32 - 13, w / 32 - 17));
-            numberEverywhere("reckon kind " + kind + " over great numbers", x -> {
+            }, 3, w -> Checks.dueReckoned(k, w % 32 - 13, w / 32 - 17));
+            checks.numberEverywhere("reckon kind " + kind + " over great numbers", x -> {
                 x.unknown(1, 0, 10, 32000);
                 x.unknown(2, 3, 7, 32700);
                 x.reckon(3, k, 1, 2);
-            }, 3, w -> dueReckoned(k, wrapped(w + 32000), wrapped(w / 8 + 32700)));
+            }, 3, w -> Checks.dueReckoned(k, Checks.wrapped(w + 32000), Checks.wrapped(w / 8 + 32700)));
         }
         plainDivisions();
     }
@@ -179,15 +135,15 @@ public final class PromisesTest {
                 x.unknown(1, 0, 10, -500);
                 x.unknown(2, 4, 6, -30);
             };
-            numberEverywhere("into a, kind " + k, x -> { given.on(x); x.reckon(1, k, 1, 2); }, 1,
-                w -> dueReckoned(k, w - 500, w / 16 - 30));
-            numberEverywhere("into b, kind " + k, x -> { given.on(x); x.reckon(2, k, 1, 2); }, 2,
-                w -> dueReckoned(k, w - 500, w / 16 - 30));
-            numberEverywhere("all one, kind " + k, x -> { given.on(x); x.reckon(1, k, 1, 1); }, 1,
-                w -> dueReckoned(k, w - 500, w - 500));
-            numberEverywhere("a is left, kind " + k, x -> { given.on(x); x.reckon(0, k, 1, 2); }, 1,
+            checks.numberEverywhere("into a, kind " + k, x -> { given.on(x); x.reckon(1, k, 1, 2); }, 1,
+                w -> Checks.dueReckoned(k, w - 500, w / 16 - 30));
+            checks.numberEverywhere("into b, kind " + k, x -> { given.on(x); x.reckon(2, k, 1, 2); }, 2,
+                w -> Checks.dueReckoned(k, w - 500, w / 16 - 30));
+            checks.numberEverywhere("all one, kind " + k, x -> { given.on(x); x.reckon(1, k, 1, 1); }, 1,
+                w -> Checks.dueReckoned(k, w - 500, w - 500));
+            checks.numberEverywhere("a is left, kind " + k, x -> { given.on(x); x.reckon(0, k, 1, 2); }, 1,
                 w -> w - 500);
-            numberEverywhere("b is left, kind " + k, x -> { given.on(x); x.reckon(0, k, 1, 2); }, 2,
+            checks.numberEverywhere("b is left, kind " + k, x -> { given.on(x); x.reckon(0, k, 1, 2); }, 2,
                 w -> w / 16 - 30);
         }
     }
@@ -222,7 +178,7 @@ public final class PromisesTest {
             x.unknown(1, 0, 5, -13);
             x.unknown(2, 5, 5, -17);
         };
-        truthEverywhere("compare kind " + kind, x -> { given.on(x); x.compare(truth, kind, 1, 2); }, truth,
+        checks.truthEverywhere("compare kind " + kind, x -> { given.on(x); x.compare(truth, kind, 1, 2); }, truth,
             w -> dueCompared(kind, w % 32 - 13, w / 32 - 17) ? 1 : 0);
         int due = 0;
         for (int w = 0; w < 1024; w++) {
@@ -241,7 +197,7 @@ public final class PromisesTest {
     }
 
     private static void comparisonReplacesTruth() {
-        truthEverywhere("a later compare", x -> {
+        checks.truthEverywhere("a later compare", x -> {
             x.compare(4, 0, 0, 0);
             x.unknown(1, 9, 1, 0);
             x.compare(4, 2, 0, 1);
@@ -256,19 +212,19 @@ public final class PromisesTest {
             x.constant(3, -7);
             x.constant(4, 9);
         };
-        numberEverywhere("choose", x -> { given.on(x); x.choose(5, 2, 3, 4); }, 5, w -> w < 300 ? -7 : 9);
-        numberEverywhere("choose into a", x -> { given.on(x); x.choose(0, 2, 0, 4); }, 0, w -> w < 300 ? w : 9);
-        numberEverywhere("choose into b", x -> { given.on(x); x.choose(0, 2, 3, 0); }, 0, w -> w < 300 ? -7 : w);
-        numberEverywhere("choose of one", x -> { given.on(x); x.choose(0, 2, 0, 0); }, 0, w -> w);
-        numberEverywhere("choose by no", x -> { given.on(x); x.choose(5, 7, 3, 0); }, 5, w -> w);
-        numberEverywhere("choose by yes", x -> {
+        checks.numberEverywhere("choose", x -> { given.on(x); x.choose(5, 2, 3, 4); }, 5, w -> w < 300 ? -7 : 9);
+        checks.numberEverywhere("choose into a", x -> { given.on(x); x.choose(0, 2, 0, 4); }, 0, w -> w < 300 ? w : 9);
+        checks.numberEverywhere("choose into b", x -> { given.on(x); x.choose(0, 2, 3, 0); }, 0, w -> w < 300 ? -7 : w);
+        checks.numberEverywhere("choose of one", x -> { given.on(x); x.choose(0, 2, 0, 0); }, 0, w -> w);
+        checks.numberEverywhere("choose by no", x -> { given.on(x); x.choose(5, 7, 3, 0); }, 5, w -> w);
+        checks.numberEverywhere("choose by yes", x -> {
             given.on(x);
             x.join(7, 3, 7, 7);
             x.choose(5, 7, 0, 3);
         }, 5, w -> w);
-        truthEverywhere("choose leaves the truth", x -> { given.on(x); x.choose(0, 2, 3, 4); }, 2,
+        checks.truthEverywhere("choose leaves the truth", x -> { given.on(x); x.choose(0, 2, 3, 4); }, 2,
             w -> w < 300 ? 1 : 0);
-        numberEverywhere("choose leaves a", x -> { given.on(x); x.choose(5, 2, 0, 4); }, 0, w -> w);
+        checks.numberEverywhere("choose leaves a", x -> { given.on(x); x.choose(5, 2, 0, 4); }, 0, w -> w);
     }
 
     private static void promise7Join() {
@@ -283,19 +239,19 @@ public final class PromisesTest {
         };
         for (int kind = 0; kind < 4; kind++) {
             int k = kind;
-            Due due = w -> dueJoined(k, (w / 8) % 2, w < 300 ? 1 : 0);
+            Checks.Due due = w -> dueJoined(k, (w / 8) % 2, w < 300 ? 1 : 0);
             int[] targets = {0, 1, 2, 7};
             for (int t : targets) {
-                truthEverywhere("join kind " + k, x -> { given.on(x); x.join(t, k, 1, 2); }, t, due);
+                checks.truthEverywhere("join kind " + k, x -> { given.on(x); x.join(t, k, 1, 2); }, t, due);
                 NumberCircuits x = new NumberCircuits();
                 given.on(x);
                 checks.equal("join kind " + k + " into " + t, x.join(t, k, 1, 2), countOf(due));
             }
-            truthEverywhere("join of one, kind " + k, x -> { given.on(x); x.join(1, k, 1, 1); }, 1,
+            checks.truthEverywhere("join of one, kind " + k, x -> { given.on(x); x.join(1, k, 1, 1); }, 1,
                 w -> dueJoined(k, (w / 8) % 2, (w / 8) % 2));
-            truthEverywhere("join leaves p, kind " + k, x -> { given.on(x); x.join(3, k, 1, 2); }, 1,
+            checks.truthEverywhere("join leaves p, kind " + k, x -> { given.on(x); x.join(3, k, 1, 2); }, 1,
                 w -> (w / 8) % 2);
-            truthEverywhere("join leaves q, kind " + k, x -> { given.on(x); x.join(3, k, 1, 2); }, 2,
+            checks.truthEverywhere("join leaves q, kind " + k, x -> { given.on(x); x.join(3, k, 1, 2); }, 2,
                 w -> w < 300 ? 1 : 0);
         }
         for (int q = 0; q < 8; q++) {
@@ -307,7 +263,7 @@ public final class PromisesTest {
         return new int[] {p * q, p + q - p * q, (p + q) % 2, 1 - p}[kind];
     }
 
-    private static int countOf(Due due) {
+    private static int countOf(Checks.Due due) {
         int count = 0;
         for (int w = 0; w < 1024; w++) {
             count += due.at(w);
@@ -318,7 +274,7 @@ public final class PromisesTest {
     private static void promise8Value() {
         for (int slot = 0; slot < 8; slot++) {
             int s = slot;
-            numberEverywhere("value", x -> {
+            checks.numberEverywhere("value", x -> {
                 for (int i = 0; i < 8; i++) {
                     x.unknown(i, 0, 10, 1000 * i - 4000);
                 }
@@ -354,7 +310,7 @@ public final class PromisesTest {
             checks.equal("of ways 6 and 9 after tidy(" + what + ")", x.way(2), 6);
         }
         checks.equal("6 and 9 at once", x.join(2, 0, 0, 1), 0);
-        checks.thrown("way of a truth that became no", x, y -> y.way(2), "NoSuchElementException");
+        checks.thrown("way of a truth that became no", x, y -> y.way(2), Checks.NO_SUCH);
     }
 
     private static void promise10Same() {
@@ -428,10 +384,10 @@ public final class PromisesTest {
             x.reckon(2, 2, 0, 1);
             tidying.on(x);
         };
-        numberEverywhere("slot 0 after tidy", calls, 0, w -> w % 32 - 3);
-        numberEverywhere("slot 1 after tidy", calls, 1, w -> w / 32 - 9);
-        numberEverywhere("slot 2 after tidy", calls, 2, w -> (w % 32 - 3) * (w / 32 - 9));
-        truthEverywhere("after tidy", calls, 3, w -> w % 32 - 3 < w / 32 - 9 ? 1 : 0);
+        checks.numberEverywhere("slot 0 after tidy", calls, 0, w -> w % 32 - 3);
+        checks.numberEverywhere("slot 1 after tidy", calls, 1, w -> w / 32 - 9);
+        checks.numberEverywhere("slot 2 after tidy", calls, 2, w -> (w % 32 - 3) * (w / 32 - 9));
+        checks.truthEverywhere("after tidy", calls, 3, w -> w % 32 - 3 < w / 32 - 9 ? 1 : 0);
     }
 
     private static void objectsAreApart() {

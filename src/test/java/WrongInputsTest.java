@@ -1,6 +1,4 @@
-import java.util.ArrayList;
 import java.util.Arrays;
-import java.util.List;
 
 /** Numbers out of range: what is thrown, and that a call that throws changes nothing. */
 public final class WrongInputsTest {
@@ -12,7 +10,6 @@ public final class WrongInputsTest {
     private static final Checks checks = new Checks();
     /** Marks an argument that may be any number. */
     private static final int ANY = -1;
-    private static final String ILLEGAL = "IllegalArgumentException";
 
     public static void main(String[] args) {
         eachOutOfRange("constant", (x, a) -> x.constant(a[0], a[1]), new int[] {7, ANY}, 2, 9);
@@ -44,12 +41,12 @@ public final class WrongInputsTest {
             for (int wrong : wrongs) {
                 int[] args = right.clone();
                 args[i] = wrong;
-                refused(name + Arrays.toString(args), x -> face.call(x, args));
+                checks.refused(name + Arrays.toString(args), x -> face.call(x, args));
             }
             for (int edge : new int[] {0, last[i]}) {
                 int[] args = right.clone();
                 args[i] = edge;
-                checks.thrown(name + Arrays.toString(args), filled(), x -> face.call(x, args), "nothing");
+                checks.thrown(name + Arrays.toString(args), Filled.made(), x -> face.call(x, args), Checks.NOTHING);
             }
         }
     }
@@ -61,62 +58,24 @@ public final class WrongInputsTest {
                 int c = count;
                 String what = "unknown(2, " + f + ", " + c + ", 9)";
                 if (f + c > 10) {
-                    refused(what, x -> x.unknown(2, f, c, 9));
+                    checks.refused(what, x -> x.unknown(2, f, c, 9));
                 } else {
-                    checks.thrown(what, filled(), x -> x.unknown(2, f, c, 9), "nothing");
+                    checks.thrown(what, Filled.made(), x -> x.unknown(2, f, c, 9), Checks.NOTHING);
                 }
             }
         }
-        refused("a count below 0 within ten together", x -> x.unknown(2, 5, -1, 9));
-        refused("a first below 0 within ten together", x -> x.unknown(2, -1, 5, 9));
-        refused("a sum that wraps", x -> x.unknown(2, Integer.MAX_VALUE, 10, 9));
-        refused("a sum that wraps", x -> x.unknown(2, 10, Integer.MAX_VALUE, 9));
-        refused("a sum that wraps to 0", x -> x.unknown(2, Integer.MIN_VALUE, Integer.MIN_VALUE, 9));
+        checks.refused("a count below 0 within ten together", x -> x.unknown(2, 5, -1, 9));
+        checks.refused("a first below 0 within ten together", x -> x.unknown(2, -1, 5, 9));
+        checks.refused("a sum that wraps", x -> x.unknown(2, Integer.MAX_VALUE, 10, 9));
+        checks.refused("a sum that wraps", x -> x.unknown(2, 10, Integer.MAX_VALUE, 9));
+        checks.refused("a sum that wraps to 0", x -> x.unknown(2, Integer.MIN_VALUE, Integer.MIN_VALUE, 9));
     }
 
     private static void noWay() {
-        NumberCircuits x = filled();
-        x.join(4, 2, 4, 4);
-        List<Long> before = told(x);
-        checks.thrown("way of a truth that is no", x, y -> y.way(4), "NoSuchElementException");
-        checks.isTrue("way without a way changes nothing", told(x).equals(before));
-        checks.thrown("way(8), before there is none", new NumberCircuits(), y -> y.way(8), ILLEGAL);
-        checks.thrown("way(-1), before there is none", new NumberCircuits(), y -> y.way(-1), ILLEGAL);
-    }
-
-    private static void refused(String what, Checks.Call call) {
-        NumberCircuits x = filled();
-        checks.thrown(what, x, call, ILLEGAL);
-        checks.isTrue(what + " changes nothing", told(x).equals(told(filled())));
-    }
-
-    /** Every slot and every truth unlike the others and hanging on the bits. */
-    private static NumberCircuits filled() {
-        NumberCircuits x = new NumberCircuits();
-        for (int i = 0; i < 8; i++) {
-            x.unknown(i, 0, 10, -100 * i - 50);
+        for (int truth : Filled.SCRATCHES) {
+            checks.noWayChangesNothing(truth);
         }
-        x.constant(7, 0);
-        for (int i = 0; i < 7; i++) {
-            x.compare(i, 2, i, 7);
-        }
-        x.compare(7, 3, 7, 5);
-        x.unknown(7, 2, 8, -77);
-        return x;
-    }
-
-    /** What an object tells of its slots and truths, in calls that leave them as they are. */
-    private static List<Long> told(NumberCircuits x) {
-        List<Long> all = new ArrayList<>();
-        int[] ways = {0, 1, 49, 50, 341, 512, 682, 1023};
-        for (int i = 0; i < 8; i++) {
-            for (int w : ways) {
-                all.add((long) x.value(i, w));
-            }
-            all.add((long) Checks.wayOrNone(x, i));
-            all.add((long) x.join(i, 0, i, i));
-        }
-        all.add((long) x.tidy(0));
-        return all;
+        checks.thrown("way(8), before there is none", new NumberCircuits(), y -> y.way(8), Checks.ILLEGAL);
+        checks.thrown("way(-1), before there is none", new NumberCircuits(), y -> y.way(-1), Checks.ILLEGAL);
     }
 }
