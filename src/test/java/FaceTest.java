@@ -21,17 +21,23 @@ public final class FaceTest {
         "public boolean NumberCircuits.same(int,int)" + ILLEGAL,
         "public int NumberCircuits.tidy(int)" + ILLEGAL));
 
+    private static final Set<Class<?>> STATIC_TYPES = Set.of(int.class, long.class, boolean.class, char.class,
+        String.class, int[].class, long[].class, char[].class, byte[].class);
+
     private static final Checks checks = new Checks();
 
     public static void main(String[] args) {
         Class<?> face = NumberCircuits.class;
         checks.isTrue("public and final", face.getModifiers() == (Modifier.PUBLIC | Modifier.FINAL));
         checks.isTrue("no package", face.getPackageName().isEmpty());
+        checks.isTrue("nothing inherited but from Object", face.getSuperclass() == Object.class);
+        checks.equal("interfaces", face.getInterfaces().length, 0);
         methods(face);
         fields(face);
         Constructor<?>[] made = face.getDeclaredConstructors();
         checks.equal("constructors", made.length, 1);
         checks.isTrue("the constructor", made[0].toString().equals("public NumberCircuits()"));
+        inside(face);
         checks.finish();
     }
 
@@ -55,8 +61,18 @@ public final class FaceTest {
     private static void fields(Class<?> face) {
         for (Field f : face.getDeclaredFields()) {
             checks.isTrue("private: " + f, Modifier.isPrivate(f.getModifiers()));
-            checks.isTrue("final, if static: " + f,
-                !Modifier.isStatic(f.getModifiers()) || Modifier.isFinal(f.getModifiers()));
+            if (Modifier.isStatic(f.getModifiers())) {
+                checks.isTrue("final: " + f, Modifier.isFinal(f.getModifiers()));
+                checks.isTrue("of a type that rule 5 names: " + f, STATIC_TYPES.contains(f.getType()));
+            }
+        }
+    }
+
+    private static void inside(Class<?> face) {
+        for (Class<?> own : face.getDeclaredClasses()) {
+            int open = own.getModifiers() & (Modifier.PUBLIC | Modifier.PROTECTED);
+            checks.isTrue("not open: " + own, open == 0);
+            checks.isTrue("static: " + own, Modifier.isStatic(own.getModifiers()));
         }
     }
 }

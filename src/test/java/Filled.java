@@ -2,6 +2,8 @@
 final class Filled {
     /** A look needs a slot and a truth to build in, so two looks, with one each, see all of them. */
     static final int[] SCRATCHES = {7, 0};
+    /** Stands for a slot or a truth where none may be otherwise. */
+    static final int NONE = -1;
 
     private static final int[] SOME_WAYS = {0, 1, 49, 50, 341, 512, 682, 1023};
 
@@ -33,33 +35,47 @@ final class Filled {
 
     /** All slots and truths but the scratch ones, for all ways; the object is spent by that. */
     static boolean isAsMade(NumberCircuits x, int scratch) {
-        return someValues(x, scratch) && allSlots(x, scratch) && allTruths(x, scratch);
+        return isAsMadeBut(x, scratch, scratch, scratch);
     }
 
-    private static boolean someValues(NumberCircuits x, int scratch) {
+    /** The same, but for one slot and one truth more that may be otherwise. */
+    static boolean isAsMadeBut(NumberCircuits x, int scratch, int slot, int truth) {
+        boolean[] slots = looked(scratch, slot);
+        return someValues(x, slots) && allSlots(x, scratch, slots) && allTruths(x, scratch, looked(scratch, truth));
+    }
+
+    private static boolean[] looked(int scratch, int other) {
+        boolean[] looked = new boolean[8];
+        for (int i = 0; i < 8; i++) {
+            looked[i] = i != scratch && i != other;
+        }
+        return looked;
+    }
+
+    private static boolean someValues(NumberCircuits x, boolean[] looked) {
         boolean right = true;
         for (int i = 0; i < 8; i++) {
             for (int w : SOME_WAYS) {
-                right &= i == scratch || x.value(i, w) == w - 100 * i - 50;
+                right &= !looked[i] || x.value(i, w) == w - 100 * i - 50;
             }
         }
         return right;
     }
 
-    private static boolean allSlots(NumberCircuits x, int scratch) {
+    private static boolean allSlots(NumberCircuits x, int scratch, boolean[] looked) {
         boolean right = true;
         for (int i = 0; i < 8; i++) {
             fillSlot(x, scratch, i);
-            right &= i == scratch || x.same(i, scratch);
+            right &= !looked[i] || x.same(i, scratch);
         }
         return right;
     }
 
-    private static boolean allTruths(NumberCircuits x, int scratch) {
+    private static boolean allTruths(NumberCircuits x, int scratch, boolean[] looked) {
         boolean right = true;
         for (int i = 0; i < 8; i++) {
             fillTruth(x, scratch, i);
-            right &= i == scratch || x.join(scratch, 2, i, scratch) == 0;
+            right &= !looked[i] || x.join(scratch, 2, i, scratch) == 0;
         }
         return right;
     }
