@@ -5,7 +5,10 @@ import java.net.URL;
 import java.net.URLClassLoader;
 import java.nio.file.Files;
 import java.nio.file.Path;
-import java.util.Arrays;
+import java.util.ArrayList;
+import java.util.List;
+import java.util.regex.Matcher;
+import java.util.regex.Pattern;
 import java.util.stream.Stream;
 import javax.tools.ToolProvider;
 
@@ -15,14 +18,14 @@ public final class ReadmeTest {
     private static final Path TESTS = Path.of("src/test/java");
     private static final String BLOCK_BEGINS = "```java\n";
     private static final String BLOCK_ENDS = "```";
+    /** A line that keeps an answer: its name, and the last number of the comment, which tells what it is. */
+    private static final Pattern ANSWER = Pattern.compile("^int (\\w+) = .*//.*?(\\d+)[^\\d\n]*$", Pattern.MULTILINE);
 
     private static final Checks checks = new Checks();
 
     public static void main(String[] args) throws IOException, ReflectiveOperationException {
         String readme = Files.readString(README);
-        int[] answered = exampleRun(readme);
-        checks.isTrue("2 ways, way 567, x 23 and y 17, not " + Arrays.toString(answered),
-            Arrays.equals(answered, new int[] {2, 567, 23, 17}));
+        example(readme);
         for (Method m : NumberCircuits.class.getDeclaredMethods()) {
             if (Modifier.isPublic(m.getModifiers())) {
                 checks.isTrue("README.md names " + m.getName(), readme.contains("| `" + m.getName() + "("));
@@ -39,17 +42,31 @@ public final class ReadmeTest {
         checks.isTrue("README.md names " + test, readme.contains("`" + test + "`"));
     }
 
-    /** The very text of the example is compiled, as a copy of it here could be another. */
-    private static int[] exampleRun(String readme) throws IOException, ReflectiveOperationException {
+    private static void example(String readme) throws IOException, ReflectiveOperationException {
         int from = readme.indexOf(BLOCK_BEGINS) + BLOCK_BEGINS.length();
         String block = readme.substring(from, readme.indexOf(BLOCK_ENDS, from));
+        List<String> names = new ArrayList<>();
+        List<Integer> told = new ArrayList<>();
+        Matcher answers = ANSWER.matcher(block);
+        while (answers.find()) {
+            names.add(answers.group(1));
+            told.add(Integer.valueOf(answers.group(2)));
+        }
+        int[] answered = run(block + "return new int[] {" + String.join(", ", names) + "};\n");
+        checks.isTrue("the example has answers", answered.length > 0);
+        for (int i = 0; i < answered.length; i++) {
+            checks.equal("the example's " + names.get(i), answered[i], told.get(i));
+        }
+    }
+
+    /** The very text of the example is compiled, as a copy of it here could be another. */
+    private static int[] run(String body) throws IOException, ReflectiveOperationException {
         Path folder = Files.createTempDirectory("readme");
         Path source = folder.resolve("Example.java");
-        Files.writeString(source, "public class Example {\npublic static int[] run() {\n" + block
-            + "return new int[] {ways, way, x, y};\n}\n}\n");
+        Files.writeString(source, "public class Example {\npublic static int[] run() {\n" + body + "}\n}\n");
         String path = System.getProperty("java.class.path");
         int compiled = ToolProvider.getSystemJavaCompiler().run(null, null, null, "-cp", path, source.toString());
-        checks.equal("the example compiles, which", compiled, 0);
+        checks.equal("the compiler of the example", compiled, 0);
         try (URLClassLoader loader = new URLClassLoader(new URL[] {folder.toUri().toURL()})) {
             return (int[]) loader.loadClass("Example").getMethod("run").invoke(null);
         } finally {
